@@ -601,7 +601,7 @@ public final class GloveRail {
         }
 
         boolean hasCrossing(int s) {
-            return behind[s] != 0;
+            return within(s, 0, OVER) && behind[s] != 0;
         }
 
         void turn(int k) {
@@ -1116,35 +1116,38 @@ public final class GloveRail {
                 start++;
             }
             end = start;
-            token = NOTHING;
-            if (start >= length) {
+            value = NONE;
+            token = start < length ? kindOf(bytes[start]) : NOTHING;
+            if (token == STOP || token == OTHER) {
+                end++;
                 return;
             }
-            if (isLetter(bytes[start])) {
-                takeWord();
-            } else if (isFigure(bytes[start])) {
-                takeNumber();
-            } else {
-                token = bytes[start] == ';' ? STOP : OTHER;
-                end = start + 1;
-            }
-        }
-
-        private void takeWord() {
-            token = WORD;
-            while (end < length && isLetter(bytes[end])) {
+            while (end < length && kindOf(bytes[end]) == token) {
                 end++;
+            }
+            if (token == NUMBER) {
+                takeNumber();
             }
         }
 
         private void takeNumber() {
-            value = 0;
-            while (end < length && isFigure(bytes[end])) {
-                // No more than two figures count, so that a long run does not wrap around.
-                value = end < start + 2 ? 10 * value + bytes[end] - '0' : value;
-                end++;
+            int figures = end - start;
+            if (figures > 2) {
+                token = OTHER;
+                return;
             }
-            token = end <= start + 2 ? NUMBER : OTHER;
+            int last = bytes[end - 1] - '0';
+            value = figures == 2 ? 10 * (bytes[start] - '0') + last : last;
+        }
+
+        private static int kindOf(int c) {
+            if (c >= 'a' && c <= 'z') {
+                return WORD;
+            }
+            if (c >= '0' && c <= '9') {
+                return NUMBER;
+            }
+            return c == ';' ? STOP : OTHER;
         }
 
         boolean isWord(String word) {
@@ -1157,14 +1160,6 @@ public final class GloveRail {
                 }
             }
             return true;
-        }
-
-        private static boolean isLetter(int c) {
-            return c >= 'a' && c <= 'z';
-        }
-
-        private static boolean isFigure(int c) {
-            return c >= '0' && c <= '9';
         }
     }
 
@@ -1224,10 +1219,10 @@ public final class GloveRail {
 
         /** The number that stands there, or NONE: then it stays there. */
         private int takeNumber(int least, int most) {
-            if (tokens.token != Tokens.NUMBER || !within(tokens.value, least, most)) {
+            int value = tokens.value;
+            if (!within(value, least, most)) {
                 return NONE;
             }
-            int value = tokens.value;
             tokens.advance();
             return value;
         }
@@ -1263,13 +1258,11 @@ public final class GloveRail {
             }
             tokens.advance();
             int kind = takeNumber(0, Kinds.MANY - 1);
-            int s = kind == NONE ? NONE : takeFreeSpike();
+            if (kind == NONE || draft.hasCrossing(tokens.value)) {
+                return false;
+            }
+            int s = takeNumber(0, Street.OVER - 1);
             return s != NONE && draft.addCrossing(kind, s) >= 0;
-        }
-
-        private int takeFreeSpike() {
-            boolean taken = within(tokens.value, 0, Street.OVER) && draft.hasCrossing(tokens.value);
-            return taken ? NONE : takeNumber(0, Street.OVER - 1);
         }
 
         private boolean readShut() {
@@ -1288,7 +1281,9 @@ public final class GloveRail {
             if (n == NONE) {
                 return false;
             }
-            draft.pass(n);
+            for (int i = 0; i < n; i++) {
+                draft.passHour();
+            }
             return true;
         }
     }

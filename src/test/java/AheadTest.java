@@ -9,6 +9,7 @@ public final class AheadTest {
         where();
         when();
         pairs();
+        pairsAnew();
         heap();
         hold();
         drop();
@@ -89,6 +90,23 @@ public final class AheadTest {
         paired(new int[] {5, 5, 6, 6, 4, 4, 3}, 3, new int[] {-1, 4, 3, 2, 1, 6, 5});
     }
 
+    private static void pairsAnew() {
+        GloveRail x = new GloveRail();
+        for (int g = 0; g < 7; g++) {
+            x.glove(0, 1, 0);
+        }
+        due.is("pairs(-1) of seven", x.pairs(-1), 3);
+        x.street();
+        for (int g = 0; g < 5; g++) {
+            x.glove(g, 1, 0);
+        }
+        due.is("pairs(-1) of unlike ones", x.pairs(-1), 0);
+        x.glove(4, 2, 0);
+        due.is("pairs(-1) of two alike", x.pairs(-1), 1);
+        due.is("pairs(4) of two alike", x.pairs(4), 5);
+        due.is("pairs(0) of two alike", x.pairs(0), -1);
+    }
+
     private static void heaped(String text, int many, int hours, int spike) {
         GloveRail x = Due.reading(text);
         due.is(text + " heap(0)", x.heap(0), many);
@@ -110,6 +128,12 @@ public final class AheadTest {
         heaped("street;glove 0 1 9;glove 0 1 0;crossing 0 2;crossing 0 9;shut 1;shut 0;", 1, 0, 9);
         heaped(SLOW + "glove 2 1 0;crossing 0 10;", 1, 30, 10);
         heaped(SLOW + "glove 2 1 0;crossing 0 11;", 0, 0, -1);
+        GloveRail x = Due.reading("street;glove 0 1 0;crossing 0 3;");
+        due.is("heap(1), then another street", x.heap(1), 3);
+        x.hours(9);
+        due.is("heap(0), nobody any more", x.heap(0), 0);
+        due.is("heap(1), nobody any more", x.heap(1), 0);
+        due.is("heap(2), nobody any more", x.heap(2), -1);
     }
 
     private static void hold() {
@@ -130,6 +154,10 @@ public final class AheadTest {
         due.is("hold(3), one beyond", beyond.hold(3), -1);
         beyond.hours(3);
         due.is("hold(60), over now", beyond.hold(60), 0);
+        GloveRail last = Due.reading("street;glove 0 1 22;crossing 0 22;glove 0 1 21;");
+        due.is("hold(1), open and even", last.hold(1), 1);
+        last.hours(1);
+        due.is("hold(1), over or an odd hour", last.hold(1), 0);
     }
 
     private static void drop() {

@@ -162,6 +162,15 @@ public final class HoursTest {
         due.is("undo() of the first hours", x.undo(), 2);
         due.is("as at first", x.digest(), before);
         due.refused("undo() behind all", x, 1, x::undo, -3);
+        x.shuts(1);
+        x.hours(3);
+        x.shuts(0);
+        x.undo();
+        due.is("undo() of shutting another", x.about(1, 2), 1);
+        x.undo();
+        due.is("undo() of hours leaves it shut", x.about(1, 2), 1);
+        x.undo();
+        due.is("undo() of shutting it", x.about(1, 2), 0);
         for (int i = 1; i <= 9; i++) {
             x.shuts(0);
             x.hours(i);

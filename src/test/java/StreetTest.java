@@ -42,6 +42,7 @@ public final class StreetTest {
     }
 
     private static void street() {
+        streetLeavesNothing();
         GloveRail x = new GloveRail();
         due.is("street() of a new one", x.street(), 0);
         long fresh = x.digest();
@@ -73,6 +74,28 @@ public final class StreetTest {
         due.is("street() keeps the fraction: below", x.part(1), 5);
         due.is("street() keeps status: bad", x.status(0), 1);
         due.is("street() keeps status: no", x.status(1), 1);
+    }
+
+    private static void streetLeavesNothing() {
+        GloveRail x = new GloveRail();
+        long fresh = x.digest();
+        for (int h = 0; h < 6; h++) {
+            x.wet(h, 4);
+        }
+        x.glove(0, 1, 23);
+        x.glove(0, 1, 23);
+        x.crossing(0, 0);
+        x.crossing(0, 22);
+        x.shuts(0);
+        x.street();
+        due.is("street(), digest()", x.digest(), fresh);
+        x.glove(0, 1, 0);
+        due.is("street(), then nobody is over", x.count(3), 0);
+        due.is("street(), then no crossing is behind 0", x.of(0, 3), 0);
+        due.is("street(), then wool is not held", x.where(0, 23), 23);
+        for (int h = 0; h < 6; h++) {
+            due.is("street(), then wet(" + h + ", 0)", x.wet(h, 0), 0);
+        }
     }
 
     private static void wet() {
@@ -233,6 +256,11 @@ public final class StreetTest {
         due.is("wet 5 as at first", x.wet(5, 0), 0);
         due.is("an image stays", x.from(0), 1);
         due.is("the image's hour", x.count(2), 9);
+        Due.type(x, "street;glove 0 1 0;crossing 0 9;");
+        due.is("another read()", x.read(), 3);
+        due.is("another read(): its gloves alone", x.count(0), 1);
+        due.is("another read(): its crossings alone", x.about(0, 1), 9);
+        due.is("another read(): its hour", x.count(2), 0);
     }
 
     private static void readFaults() {
@@ -242,6 +270,8 @@ public final class StreetTest {
         reads("street   ", -19);
         reads("stree", -10);
         reads("streets;", -10);
+        reads("streeta;", -10);
+        reads("streetz;", -10);
         reads(" Street;", -11);
         reads("wet 0;", -10);
         reads(";", -10);
@@ -283,6 +313,9 @@ public final class StreetTest {
         reads("street;crossing 0;", -27);
         reads("street;crossing 0 3;crossing 1 3;", -41);
         reads("street;crossing 0 3;crossing 1;", -40);
+        reads("street;crossing 0 0;crossing 1 0;", -41);
+        reads("street;crossing 0 22;crossing 1 22;", -42);
+        reads("street;crossing 0 3;crossing 3;", -40);
         reads("street;crossing 0 0;crossing 0 1;crossing 0 2;crossing 0 3;", -56);
         reads("street;crossing 0 0;crossing 0 1;crossing 0 2;crossing", -56);
         reads("street;shut 0;", -22);

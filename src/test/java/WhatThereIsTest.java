@@ -44,8 +44,11 @@ public final class WhatThereIsTest {
         due.refused("from(0), only 1 kept", x, 1, () -> x.from(0), -3);
         x.hours(9);
         x.shuts(2);
+        x.forget(0);
         x.seen(3, 4);
         x.forget(1);
+        x.note(1, 2, 2, 2);
+        x.forget(2);
         x.mark(1, 1, 1, 0);
         x.wet(0, 4);
         long second = x.digest();
@@ -90,10 +93,11 @@ public final class WhatThereIsTest {
         }
         x.image(0);
         long kept = x.digest();
-        while (x.undo() != -3) {
-            x.seen(0, 0);
+        x.street();
+        x.crossing(1, 1);
+        for (int i = 0; i < 9; i++) {
+            x.shuts(0);
         }
-        x.shuts(0);
         x.from(0);
         due.is("from(0), then digest()", x.digest(), kept);
         for (int i = 0; i < 8; i++) {
@@ -148,6 +152,8 @@ public final class WhatThereIsTest {
         due.refused("count(-1)", x, 0, () -> x.count(-1), -2);
         x.hours(2);
         due.is("who waits, at a shut one", x.count(4), 1);
+        GloveRail y = Due.reading("street;glove 0 1 4;glove 0 1 9;glove 0 1 8;glove 0 1 4;glove 0 1 23;crossing 0 4;crossing 0 9;");
+        due.is("who waits, at both", y.count(4), 3);
         x.shuts(0);
         due.is("two are shut", x.count(5), 2);
     }
