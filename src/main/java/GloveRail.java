@@ -1125,19 +1125,11 @@ public final class GloveRail {
             while (end < length && kindOf(bytes[end]) == token) {
                 end++;
             }
-            if (token == NUMBER) {
-                takeNumber();
+            // A run of three figures or more has no value, so that it can stand nowhere.
+            if (token == NUMBER && end - start <= 2) {
+                int last = bytes[end - 1] - '0';
+                value = end - start == 2 ? 10 * (bytes[start] - '0') + last : last;
             }
-        }
-
-        private void takeNumber() {
-            int figures = end - start;
-            if (figures > 2) {
-                token = OTHER;
-                return;
-            }
-            int last = bytes[end - 1] - '0';
-            value = figures == 2 ? 10 * (bytes[start] - '0') + last : last;
         }
 
         private static int kindOf(int c) {

@@ -270,6 +270,12 @@ public final class StreetTest {
         reads("street   ", -19);
         reads("stree", -10);
         reads("streets;", -10);
+        reads("ztreet;", -10);
+        reads("streex;", -10);
+        reads("street-", -16);
+        reads("street\t;", -16);
+        reads("street;hours 1:", -24);
+        reads("street;xet 1;", -17);
         reads("streeta;", -10);
         reads("streetz;", -10);
         reads(" Street;", -11);

@@ -34,9 +34,11 @@ public final class WhatThereIsTest {
         due.refused("image(-1)", x, 0, () -> x.image(-1), -2);
         due.refused("from(2)", x, 0, () -> x.from(2), -2);
         due.refused("from(-1)", x, 0, () -> x.from(-1), -2);
-        x.seen(1, 2);
-        x.note(0, 1, 1, 1);
-        x.mark(0, 1, 1, 1);
+        for (int i = 0; i < 6; i++) {
+            x.seen(10 + i, 2);
+            x.note(0, 1 + i, 1, 1);
+            x.mark(0, 1, 1 + i, i);
+        }
         x.shuts(0);
         x.rain(3);
         long first = x.digest();
@@ -45,11 +47,13 @@ public final class WhatThereIsTest {
         x.hours(9);
         x.shuts(2);
         x.forget(0);
-        x.seen(3, 4);
         x.forget(1);
-        x.note(1, 2, 2, 2);
         x.forget(2);
-        x.mark(1, 1, 1, 0);
+        for (int i = 0; i < 6; i++) {
+            x.seen(3, 4 + i);
+            x.note(1, 2, 2, 2 + i);
+            x.mark(1, 1, 1, i);
+        }
         x.wet(0, 4);
         long second = x.digest();
         due.is("image(0)", x.image(0), 1);
