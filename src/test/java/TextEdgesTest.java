@@ -219,7 +219,8 @@ public final class TextEdgesTest {
         edges.faults("a CROSSING that is not there yet", "street;crossing 0 0;shut 1;", 25);
         edges.faults("a CROSSING that is not there yet", "street;crossing 0 0;crossing 0 1;shut 02;", 38);
         // One that the street now has is none of the text's.
-        edges.says("a CROSSING that is not there yet", "crossing(0,0) crossing(0,1) crossing(0,2) glove(0,1,9) (street;shut 0;) ?read()=-22");
+        edges.says("a CROSSING that is not there yet",
+                "crossing(0,0) crossing(0,1) crossing(0,2) glove(0,1,9) (street;shut 0;) ?read()=-22");
     }
 
     private static void faultsByStop() {
